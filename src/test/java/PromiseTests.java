@@ -1,0 +1,1 @@
+public final class PromiseTests { public static void main(String[] a) {} }
