@@ -450,7 +450,7 @@ public final class TrigramReaders {
         if (!input.isName(0, input.length)) {
             throw new IllegalArgumentException("the input buffer is not a name");
         }
-        if (state.readersUsed >= MAX_READERS || state.readerNamed(input, 0, input.length) != NONE) {
+        if (state.readersUsed >= MAX_READERS || state.readerNamed(input, 0, input.length) != null) {
             throw new IllegalStateException("there is no room for a reader of this name");
         }
         remember();
@@ -612,17 +612,19 @@ public final class TrigramReaders {
     }
 
     private Reader existingReader(int reader) {
-        if (reader < 0 || reader >= state.readersUsed) {
+        Reader found = state.readerAt(reader);
+        if (found == null) {
             throw new IndexOutOfBoundsException("the reader does not exist");
         }
-        return state.readers[reader];
+        return found;
     }
 
     private Document existingDocument(int document) {
-        if (document < 0 || document >= state.documentsUsed) {
+        Document found = state.documentAt(document);
+        if (found == null) {
             throw new IndexOutOfBoundsException("the document does not exist");
         }
-        return state.documents[document];
+        return found;
     }
 
     private static void requireSlot(int slot) {
@@ -1075,13 +1077,24 @@ public final class TrigramReaders {
             currentYear = 0;
         }
 
-        int readerNamed(Bytes text, int start, int end) {
+        /** The reader with this name, or null. */
+        Reader readerNamed(Bytes text, int start, int end) {
             for (int i = 0; i < readersUsed && i < MAX_READERS; i++) {
                 if (readers[i].isNamed(text, start, end)) {
-                    return i;
+                    return readers[i];
                 }
             }
-            return NONE;
+            return null;
+        }
+
+        /** The reader with this number, or null. */
+        Reader readerAt(int number) {
+            return number >= 0 && number < readersUsed ? readers[number] : null;
+        }
+
+        /** The document with this number, or null. */
+        Document documentAt(int number) {
+            return number >= 0 && number < documentsUsed ? documents[number] : null;
         }
 
         void putReader(Bytes text, int start, int end, int method) {
@@ -1095,13 +1108,6 @@ public final class TrigramReaders {
             if (documentsUsed < MAX_DOCUMENTS) {
                 documents[documentsUsed].take(text, start, end, currentYear);
                 documentsUsed++;
-            }
-        }
-
-        void trainReader(int reader, int document) {
-            if (reader >= 0 && reader < readersUsed && document >= 0 && document < documentsUsed) {
-                readers[reader].counts.countDocument(documents[document]);
-                readers[reader].recordTraining(document, documents[document].length);
             }
         }
 
@@ -1298,7 +1304,7 @@ public final class TrigramReaders {
             if (!text.isName(tokenStart, tokenEnd)) {
                 return fail(2);
             }
-            if (target.readerNamed(text, tokenStart, tokenEnd) != NONE) {
+            if (target.readerNamed(text, tokenStart, tokenEnd) != null) {
                 return fail(3);
             }
             int nameStart = tokenStart;
@@ -1340,22 +1346,24 @@ public final class TrigramReaders {
             if (kind != WORD) {
                 return fail(1);
             }
-            int reader = target.readerNamed(text, tokenStart, tokenEnd);
-            if (reader == NONE) {
+            Reader trained = target.readerNamed(text, tokenStart, tokenEnd);
+            if (trained == null) {
                 return fail(4);
             }
             next();
             if (kind != NUMBER) {
                 return fail(1);
             }
-            int document = numberValue();
-            if (document >= target.documentsUsed) {
+            int number = numberValue();
+            Document read = target.documentAt(number);
+            if (read == null) {
                 return fail(2);
             }
             if (!parseSemicolon()) {
                 return false;
             }
-            target.trainReader(reader, document);
+            trained.counts.countDocument(read);
+            trained.recordTraining(number, read.length);
             return true;
         }
 

@@ -56,23 +56,16 @@ final class Checks {
 
     /** Appends a text to the input buffer, one char a byte. */
     static void type(TrigramReaders x, String text) {
-        int before = x.truncateInput(lengthOf(x));
+        int before = lengthOf(x);
         for (int at = 0; at < text.length(); at += 20) {
             x.appendInput(four(text, at), four(text, at + 4), four(text, at + 8), four(text, at + 12), four(text, at + 16));
         }
         x.truncateInput(before + text.length());
     }
 
-    /** No method asks for the length: the greatest length that truncateInput takes is it. */
+    /** The length of an input buffer of at most 480 bytes: no method asks for it, but appendInput answers it. */
     static int lengthOf(TrigramReaders x) {
-        for (int length = 500; length > 0; length--) {
-            try {
-                return x.truncateInput(length);
-            } catch (IllegalArgumentException tooLong) {
-                continue;
-            }
-        }
-        return 0;
+        return x.truncateInput(x.appendInput(0, 0, 0, 0, 0) - 20);
     }
 
     static int four(String text, int at) {

@@ -21,6 +21,7 @@ public final class PromiseTests {
         loadErrorOrder();
         counts();
         countLimits();
+        fullTables();
         contexts();
         rankings();
         probabilities();
@@ -166,6 +167,19 @@ public final class PromiseTests {
         checks.due("readers before", 0, () -> x.readerCount());
         checks.due("undo", 0, () -> x.undo());
         checks.due("readers of the first state", 2, () -> x.readerCount());
+
+        TrigramReaders z = loaded("reader abcd d;document banana;train abcd 0;year;year;");
+        Checks.type(z, "reader e a;document x;");
+        checks.due("load again", 1, () -> z.load());
+        name(z, 0, "e");
+        symbols(z, 0, "x", 0);
+        checks.due("year from 0", 0, () -> z.year());
+        checks.due("no count of the load before", 0, () -> z.positiveCounts(0));
+        checks.due("no record of the load before", 0, () -> z.timesTrained(0, 0));
+        checks.due("no symbols of the load before", 0, () -> z.trainedSymbols(0));
+        Checks.type(z, "reader f a;");
+        checks.due("load a third time", 1, () -> z.load());
+        checks.due("no documents", 0, () -> z.documentCount());
 
         TrigramReaders y = loaded("reader year a;reader a c;reader c d;reader d a;document reader;"
             + "document b;document c;document d;document e;document f;document g;document "
@@ -341,6 +355,44 @@ public final class PromiseTests {
         checks.due("halved", 499, () -> x.countOrder0(0, 0));
         checks.due("halved", 494, () -> x.countOrder2(0, 0, 0, 0));
         checks.due("yearsToForget 499", 9, () -> x.yearsToForget(0));
+    }
+
+    /** Eight documents without a pair that stands in them twice: the most counts that a reader can have. */
+    private static void fullTables() {
+        TrigramReaders x = loaded("reader a a;reader b c;");
+        boolean[][] used = new boolean[27][27];
+        for (int document = 0; document < 8; document++) {
+            StringBuilder text = new StringBuilder();
+            int latest = document * 3;
+            text.append(letter(latest));
+            while (text.length() < 40) {
+                int next = 0;
+                while (used[latest][(latest + next) % 27]) {
+                    next++;
+                }
+                used[latest][(latest + next) % 27] = true;
+                latest = (latest + next) % 27;
+                text.append(letter(latest));
+            }
+            document(x, text.toString(), document);
+            x.train(document % 2, document);
+        }
+        x.merge(0, 1);
+        checks.due("pairs of both", 8 * 38, () -> x.order2Contexts(1));
+        checks.due("all counts", 27 + 8 * 39 + 8 * 38, () -> x.positiveCounts(1));
+        checks.due("merged to and fro", 27 + 8 * 39 + 8 * 38, () -> x.merge(1, 0));
+        // Only a part of the pairs: an object is good for 512 calls.
+        for (int first = 0; first < 12; first++) {
+            for (int second = 0; second < 27; second++) {
+                int p = first;
+                int q = second;
+                checks.due("pair " + p + ", " + q, used[p][q] ? 1 : 0, () -> Math.min(1, x.countOrder1(0, p, q)));
+            }
+        }
+    }
+
+    private static char letter(int symbol) {
+        return symbol == UNDERSCORE ? '_' : (char) ('a' + symbol);
     }
 
     // ---- promises 18 and 19
@@ -522,6 +574,13 @@ public final class PromiseTests {
         checks.due("_", 27, () -> y.totalGuesses(0, 2));
         checks.due("_", 27, () -> y.adaptiveGuesses(0, 2));
         checks.due("no hit", 0, () -> y.hitShare(0, 2));
+        checks.due("one symbol", 27, () -> y.meanGuesses(0, 2));
+        y.train(0, 2);
+        checks.due("one symbol", 1, () -> y.meanGuesses(0, 2));
+        checks.due("one symbol", 1, () -> y.hitShare(0, 2));
+        checks.due("the first position is the hardest", 0, () -> y.hardestPosition(0, 2));
+        // Method A: _ 1/2.
+        checks.due("one symbol", 1, () -> y.totalBits(0, 2));
         refusedForDocuments(x);
     }
 
@@ -578,6 +637,17 @@ public final class PromiseTests {
         TrigramReaders bare = loaded("reader a a;reader b a;");
         checks.due("no documents", NONE, () -> bare.hardestDocument(0));
         checks.due("no pairs", 0, () -> bare.agreements(0, 1));
+        TrigramReaders ends = loaded("reader a a;document ________________________________________;document a;");
+        checks.due("1080 guesses", 1080, () -> ends.totalGuesses(0, 0));
+        checks.due("the best all the same", 0, () -> ends.bestReader(0));
+        checks.due("1080 guesses and 1", 0, () -> ends.hardestDocument(0));
+        TrigramReaders one = loaded("reader a a;document a;");
+        checks.due("one guess", 0, () -> one.hardestDocument(0));
+        TrigramReaders pairs = loaded("reader a a;reader b a;document aaa;train a 0;");
+        checks.due("the first pair, one reader", 1, () -> pairs.agreements(0, 1));
+        checks.due("the first pair, the other reader", 1, () -> pairs.agreements(1, 0));
+        TrigramReaders last = loaded("reader a a;reader b a;document ___;train a 0;train b 0;");
+        checks.due("the last pair", 1, () -> last.agreements(1, 0));
         TrigramReaders even = loaded("reader a a;reader b a;document ab;document ba;document _;document _;");
         checks.due("equal readers", 0, () -> even.bestReader(0));
         checks.due("equal documents", 2, () -> even.hardestDocument(1));
@@ -824,6 +894,9 @@ public final class PromiseTests {
         checks.refused("encode", MISSING, () -> x.encode(2, 0));
         written(x, "a");
 
+        TrigramReaders z = loaded("reader e a;document ijkst;");
+        checks.due("encode", 13, () -> z.encode(0, 0));
+        written(z, "9,10,11,19,20");
         TrigramReaders y = loaded("reader e a;document ________________________________________;document __b;");
         checks.due("the longest output", 119, () -> y.encode(0, 0));
         written(y, "27,".repeat(39) + "27");
@@ -849,15 +922,18 @@ public final class PromiseTests {
         decoded(x, 0, "1,2,1,1,27,5,1,6,1,2,1,1", "abra_cadabra");
         decoded(x, 0, "0000000000000000000000000000000000000000000000000000000000000000000002,027", "b_");
         decoded(x, 0, "1" + ",27".repeat(39), "a" + "_".repeat(39));
+        TrigramReaders blank = loaded("reader e a;");
+        decoded(blank, 0, "9,10,19,20,26,27", "ijstz_");
         String[] wrong = {"", ",", "1,", ",1", "1,,1", "0", "00", "28", "1,28", "1 ,2", " 1", "1 ", "1;2", "a", "-1", "+1", "1.0",
             "1\n", "1,0", "1" + ",1".repeat(40), "4294967297", "18446744073709551617", "1\0", "100", "270"};
         for (String ranks : wrong) {
-            Checks.type(x, ranks);
-            checks.refused("decode " + ranks, ILLEGAL, () -> x.decode(0));
-            checks.due("the buffer stays", ranks.length(), () -> Checks.lengthOf(x));
-            checks.refused("decode of nobody " + ranks, MISSING, () -> x.decode(2));
-            written(x, "a" + "_".repeat(39));
-            x.truncateInput(0);
+            TrigramReaders y = fresh();
+            y.writeExpected(0, 3);
+            Checks.type(y, ranks);
+            checks.refused("decode " + ranks, ILLEGAL, () -> y.decode(0));
+            checks.due("the buffer stays", ranks.length(), () -> Checks.lengthOf(y));
+            checks.refused("decode of nobody " + ranks, MISSING, () -> y.decode(2));
+            written(y, "ana");
         }
         Checks.type(x, "1");
         checks.refused("decode of nobody", MISSING, () -> x.decode(-1));
@@ -961,6 +1037,18 @@ public final class PromiseTests {
         checks.refused("document 2", MISSING, () -> y.documentLength(2));
         checks.due("undo addReader", 0, () -> y.undo());
         checks.refused("reader 2", MISSING, () -> y.escapeMethod(2));
+        named(y, "x", A, 2);
+        document(y, "q", 2);
+        name(y, 2, "x");
+        symbols(y, 2, "q", 1);
+        checks.due("a new reader's counts", 0, () -> y.positiveCounts(2));
+        y.train(2, 2);
+        y.undo();
+        y.undo();
+        y.undo();
+        named(y, "w", A, 2);
+        checks.due("a new reader's counts", 0, () -> y.positiveCounts(2));
+        checks.due("a new reader's symbols", 0, () -> y.trainedSymbols(2));
     }
 
     // ---- section 7: a method that throws changes nothing; the buffer, the error, the output and the slots are no state
