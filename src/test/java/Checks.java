@@ -6,6 +6,16 @@ final class Checks {
 
     private int wrong = 0;
     private int made = 0;
+    private String about = "";
+
+    /** What the faults told from now on are about. */
+    void about(String what) {
+        about = what;
+    }
+
+    int made() {
+        return made;
+    }
 
     /** All answers of the face, the long ones too, are exact as a double. */
     void due(String what, double want, Call call) {
@@ -42,7 +52,7 @@ final class Checks {
     void tell(String fault) {
         wrong++;
         if (wrong <= 50) {
-            System.out.println(fault);
+            System.out.println(about + fault);
         }
     }
 
