@@ -7,6 +7,7 @@ import java.util.List;
 /** Long mixed runs of calls, each answer compared with the model's. The runs are the same every time. */
 public final class ModelRuns {
     private static final int RUNS = 300;
+    private static final int GROWN_RUNS = 150;
     private static final int CALLS = 512;
     private static final String[] CHANGES = {"addReader", "addDocument", "train", "train", "learn", "forget",
         "setEscapeMethod", "endYear", "merge", "save", "restore", "undo", "load", "decode"};
@@ -32,16 +33,97 @@ public final class ModelRuns {
         }
         methods.sort(Comparator.comparing(Method::getName));
         for (run = 0; run < RUNS; run++) {
-            seed = run * 7919L + 17;
-            real = new TrigramReaders();
-            model = new TrigramModel();
-            calls = 0;
+            begin();
             while (calls < CALLS) {
                 step();
             }
         }
+        for (; run < RUNS + GROWN_RUNS; run++) {
+            begin();
+            grow();
+            while (calls < CALLS) {
+                ask();
+            }
+        }
+        // No symbol counts at two orders of one context, so little more than (2 * 9 * 999) to the power 3 can be met.
+        checks.hold("denominators of 100,000,000,000 and more are met, not " + greatestDenominator,
+            greatestDenominator >= 100_000_000_000L);
         checks.end();
     }
+
+    private void begin() {
+        seed = run * 7919L + 17;
+        real = new TrigramReaders();
+        model = new TrigramModel();
+        calls = 0;
+    }
+
+    // ---- grown runs: many and great counts first, which mixed runs seldom reach, then questions that meet them
+
+    private static final List<String> ABOUT_SYMBOLS = List.of("symbolAtRank", "rank", "foundOrder", "escapes",
+        "numerator", "denominator", "probability", "codeLength", "countOrder0", "countOrder1", "countOrder2");
+    private static final List<String> ABOUT_READERS = List.of("contextTotal", "contextSymbols", "order2Contexts",
+        "positiveCounts", "timesTrained", "trainedSymbols", "trainingGap", "rankAt", "totalGuesses", "adaptiveGuesses",
+        "firstGuessHits", "unseenSymbols", "hardestPosition", "totalBits", "meanGuesses", "hitShare", "bestReader",
+        "hardestDocument", "guessesAfterTraining", "trainingsNeeded", "yearsToForget", "agreements", "encode",
+        "writeExpected");
+
+    private long greatestDenominator;
+
+    private void grow() {
+        StringBuilder text = new StringBuilder();
+        int readers = 2 + pick(3);
+        for (int i = 0; i < readers; i++) {
+            text.append("reader ").append((char) ('a' + i)).append(' ').append("acd".charAt(pick(3))).append(';');
+        }
+        int documents = 2 + pick(7);
+        for (int i = 0; i < documents; i++) {
+            text.append("document ").append(word(20 + pick(21), true)).append(';');
+        }
+        call(named("truncateInput"), 0);
+        type(text.toString());
+        call(named("load"));
+        for (int i = 0; i < 12; i++) {
+            call(named("train"), pick(readers), pick(documents));
+        }
+        for (int i = 20 + pick(60); i > 0; i--) {
+            int reader = pick(readers);
+            switch (pick(12)) {
+                case 0 -> call(named("endYear"));
+                case 1 -> call(named("setEscapeMethod"), reader, pick(3));
+                case 2 -> call(named("learn"), reader, pick(documents));
+                case 3, 4, 5, 6 -> call(named("train"), reader, pick(documents));
+                default -> call(named("merge"), reader, (reader + 1 + pick(readers - 1)) % readers);
+            }
+        }
+    }
+
+    private void ask() {
+        int reader = pick(model.state.readers.size());
+        String text = model.state.documents.get(pick(model.state.documents.size()));
+        int at = pick(text.length());
+        int previous = at > 0 ? TrigramModel.ALPHABET.indexOf(text.charAt(at - 1)) : -1;
+        int beforePrevious = at > 1 && pick(5) > 0 ? TrigramModel.ALPHABET.indexOf(text.charAt(at - 2)) : -1;
+        int symbol = pick(3) == 0 ? TrigramModel.ALPHABET.indexOf(text.charAt(at)) : pick(27);
+        if (pick(3) == 0) {
+            String name = ABOUT_READERS.get(pick(ABOUT_READERS.size()));
+            if (name.startsWith("context")) {
+                call(named(name), reader, beforePrevious, previous);
+            } else {
+                call(named(name));
+            }
+            return;
+        }
+        String name = ABOUT_SYMBOLS.get(pick(ABOUT_SYMBOLS.size()));
+        switch (name) {
+            case "countOrder0" -> call(named(name), reader, symbol);
+            case "countOrder1" -> call(named(name), reader, previous, symbol);
+            case "symbolAtRank" -> call(named(name), reader, beforePrevious, previous, symbol + 1);
+            default -> call(named(name), reader, beforePrevious, previous, symbol);
+        }
+    }
+
+    // ---- mixed runs
 
     /** A number from 0 to bound - 1, by a fixed rule. */
     private int pick(int bound) {
@@ -235,6 +317,9 @@ public final class ModelRuns {
             got = e.getCause().getClass().getName();
         } catch (IllegalAccessException e) {
             got = e.getClass().getName();
+        }
+        if (method.getName().equals("denominator") && want instanceof Long) {
+            greatestDenominator = Math.max(greatestDenominator, (Long) want);
         }
         if (want.equals(got)) {
             checks.hold(method.getName(), true);
